@@ -243,7 +243,7 @@ public final class HeavyHaul {
       }
       reach(gone + 1, here & withBay);
       if (here != 0) {
-        driveOn(rig, fit, ten, gone);
+        driveOn(rig, fit, here, ten, gone);
       }
     }
     return NONE;
@@ -455,12 +455,8 @@ public final class HeavyHaul {
 
   // The earliest arrival
 
-  /** Marks where each drive ends that begins so many tens behind the first one. */
-  private void driveOn(int rig, int fit, int first, int gone) {
-    if (gone < 0 || gone >= HORIZON) {
-      return;
-    }
-    int here = reached[gone];
+  /** Marks where each drive ends that begins at these places, so many tens behind the first one. */
+  private void driveOn(int rig, int fit, int here, int first, int gone) {
     for (int i = 0; i < roads.size(); i++) {
       Road road = roads.get(i);
       int beyond = placesBeyond(road, here);

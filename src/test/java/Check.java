@@ -36,12 +36,17 @@ final class Check {
     }
   }
 
-  /** The answer, or the exception's name: its very class, as the document names it. */
+  /**
+   * The answer, or the exception's name: its very class, as the document names it. The programs
+   * throw by themselves alone, so one that comes out of the library bears that mark.
+   */
   static String told(Call made) {
     try {
       return String.valueOf(made.answer());
     } catch (RuntimeException e) {
-      return e.getClass().getSimpleName();
+      StackTraceElement[] trace = e.getStackTrace();
+      boolean isOwn = trace.length > 0 && trace[0].getClassName().contains("Haul");
+      return e.getClass().getSimpleName() + (isOwn ? "" : " of the library");
     }
   }
 

@@ -368,9 +368,23 @@ final class PromiseTest {
     due("all at once", 280, () -> haul.greatest(0, 0, false));
     // The axle 0 at 23: 105 * 17 and 105 * 20 and 35 * 17 and 35 * 14.
     due("all at once", 4970, () -> haul.greatest(0, 0, true));
+    // With the front half empty, the greatest comes late: the third axle is 10 metres behind.
+    due("rear rig", 1, () -> haul.rig(0, 4, 5, 20, 40, 40, 0));
+    due("bridge", 1, () -> Check.number(haul.bridge(0, 2, 1, 1)));
+    due("empty", 0, () -> haul.greatest(0, 1, false));
+    due("empty", 0, () -> haul.greatest(0, 1, true));
+    load(1, 80, 12);
+    axles(1, 2, 2, 38, 38);
+    due("the rear half", 38, () -> haul.greatest(0, 1, false));
+    due("the rear half", 38, () -> haul.greatest(0, 1, true));
+    due("the rear half anew", 38, () -> haul.greatestAnew(0, 1, false));
+    due("two axles", 2, () -> haul.rig(0, 2, 5, 20, 40, 40, 0));
+    load(2, 80, 5);
+    due("the last axle alone", 80, () -> haul.greatest(0, 2, false));
+    due("the last axle alone", 80, () -> haul.greatest(0, 2, true));
     refused("road", INDEX, () -> haul.greatest(1, 0, true));
     refused("road", INDEX, () -> haul.greatest(-1, 0, true));
-    refused("rig", INDEX, () -> haul.greatest(0, 1, false));
+    refused("rig", INDEX, () -> haul.greatest(0, 3, false));
     refused("rig", INDEX, () -> haul.greatest(0, -1, false));
   }
 
@@ -402,9 +416,13 @@ final class PromiseTest {
     haul = new HeavyHaul();
     road(0, 0, 1, 2, 1);
     due("rig", 0, () -> haul.rig(0, 2, 1, 20, 40, 40, 20));
+    permit(1, 0, 2, 0, 99);
+    // The most weight is 99999 at first.
+    load(0, 99990, 0);
+    axles(0, 100000, 10);
+    why(5, 0, 0, 0);
     load(0, 99989, 0);
     axles(0, 99999, 10);
-    permit(1, 0, 2, 0, 99);
     why(0, 0, 0, 0);
     refused("authority", INDEX, () -> authority(4, -1, 1));
     refused("authority", INDEX, () -> authority(-1, 0, 1));

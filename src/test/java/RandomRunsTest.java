@@ -93,7 +93,8 @@ final class RandomRunsTest {
   }
 
   private int later(int from) {
-    return Math.min(9999, from + (below(30) == 0 ? below(2) : 1 + below(isEasy ? 2000 : 250)));
+    int longest = isEasy ? 2000 : 250;
+    return Math.min(9999, from + (below(30) == 0 ? below(2) : 1 + below(longest)));
   }
 
   private void tell(int run, int places) {
@@ -109,21 +110,23 @@ final class RandomRunsTest {
       });
     } else if (kind < 9) {
       both(run, "bridge", new int[] {
-        near(0, Math.max(0, slow.roads.size() - 1)), near(1, 40), near(1, 999999) / from(1, isEasy ? 2 : 9),
+        road(), near(1, 40), near(1, 999999) / from(1, isEasy ? 2 : 9),
         near(1, 9999999) / from(1, isEasy ? 2 : 9)
       });
     } else if (kind < 11) {
       int from = soon();
       both(run, "work", new int[] {
-        near(0, Math.max(0, slow.roads.size() - 1)), near(0, 50), near(0, 50), from, later(from)
+        road(), near(0, 50), near(0, 50), from, later(from)
       });
     } else if (kind < 13) {
       both(run, "rig", new int[] {
-        place(places), near(2, 16) & ~(below(9) == 0 ? 0 : 1), near(1, 5), near(5, isEasy ? 40 : 50),
-        near(20, isEasy ? 40 : 50), near(20, isEasy ? 40 : 50), near(0, 99999)
+        place(places), near(2, 16) & ~(below(9) == 0 ? 0 : 1), near(1, 5),
+        near(5, isEasy ? 40 : 50), near(20, isEasy ? 40 : 50), near(20, isEasy ? 40 : 50),
+        near(0, 99999)
       });
     } else if (kind < 15) {
-      both(run, "load", new int[] {rig(), near(0, 200000), below(4) == 0 ? near(0, 80) : below(25)});
+      int centre = below(4) == 0 ? near(0, 80) : below(25);
+      both(run, "load", new int[] {rig(), near(0, 200000), centre});
     } else if (kind < 16) {
       both(run, "authority", new int[] {
         below(9) == 0 ? near(0, 3) : below(2), below(8) == 0 ? near(0, 999) : near(0, 9),
