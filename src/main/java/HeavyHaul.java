@@ -377,7 +377,11 @@ public final class HeavyHaul {
     if (!isBorne(road, rig)) {
       return NOT_BORNE;
     }
-    return rig.heaviestAxle() > mostOfAxles[road.authority] ? AXLE_TOO_HEAVY : 0;
+    return rig.heaviestAxle() > mostOfAxle(road.authority) ? AXLE_TOO_HEAVY : 0;
+  }
+
+  private int mostOfAxle(int authority) {
+    return authority >= 0 && authority < AUTHORITIES ? mostOfAxles[authority] : 0;
   }
 
   private int leaveReason(int rig, int road, int ten) {
@@ -447,10 +451,14 @@ public final class HeavyHaul {
       Rig rig = rigs.get(i);
       if (rig.isDriving()) {
         rig.standIfArrived(now);
-      } else if (isByDay && !bays[rig.place]) {
+      } else if (isByDay && !hasBay(rig.place)) {
         rig.breaches++;
       }
     }
+  }
+
+  private boolean hasBay(int place) {
+    return place >= 0 && place < PLACES && bays[place];
   }
 
   // The earliest arrival
@@ -507,7 +515,7 @@ public final class HeavyHaul {
   private int placesWithBay() {
     int places = 0;
     for (int place = 0; place < PLACES; place++) {
-      if (bays[place]) {
+      if (hasBay(place)) {
         places |= 1 << place;
       }
     }
