@@ -43,6 +43,9 @@ final class BoundaryTest {
     test.refusedDrives();
     test.anotherOnABridge();
     test.standsWhenTheTensHavePassed();
+    test.driveGoesOnWhateverIsTold();
+    test.severalArriveWhileTensPass();
+    test.whyIsOfAnyRigAndRoad();
     test.breaches();
     test.arrivalAtTheSamePlace();
     test.waitsInBaysAlone();
@@ -974,6 +977,80 @@ final class BoundaryTest {
       pass(tens + 144, 144);
       rigIs(0, 6, -1, 2 * tens, 108, 2);
     }
+  }
+
+  /** "A rig may begin a drive ..., if none of these is so": what is told later stops none. */
+  private void driveGoesOnWhateverIsTold() {
+    haul = new HeavyHaul();
+    road(0, 0, 1, 0, 5);
+    rig(0, 0);
+    permit(1, 0, 0, 0, 5);
+    load(0, 10, 0);
+    drive(5, 0, 0);
+    pass(1, 1);
+    due("embargo", 1, () -> haul.embargo(0, 0, 9999));
+    due("authority", 0, () -> authority(0, 999, 1));
+    bridge(0, 0, 5, 1, 1);
+    bay(0, 0, true);
+    pass(4, 3);
+    rigIs(0, -1, 0, 5, 0, 1);
+    why(4, 0, 0, 4);
+    pass(5, 1);
+    rigIs(0, 1, -1, 5, 0, 1);
+    refused("back over the bridge", () -> haul.drive(0, 0));
+    bridge(1, 0, 5, 10, 20);
+    why(5, 0, 0, 5);
+    due("authority", 0, () -> authority(0, 0, 10));
+    why(6, 0, 0, 5);
+    permit(2, 0, 0, 5, 10);
+    why(7, 0, 0, 5);
+    refused("under the embargo", () -> haul.drive(0, 0));
+    rigIs(0, 1, -1, 5, 0, 1);
+  }
+
+  /** "when the tens of the road have passed, it stands at the other place": each by itself. */
+  private void severalArriveWhileTensPass() {
+    haul = new HeavyHaul();
+    for (int number = 0; number < 6; number++) {
+      road(number, number, number + 1, 0, number + 1);
+      rig(number, number);
+      permit(number + 1, number, 0, 0, 50);
+    }
+    bay(0, 4, true);
+    pass(30, 30);
+    for (int number = 0; number < 6; number++) {
+      drive(31 + number, number, number);
+    }
+    // The rigs 0 to 2 have arrived at 33, the others drive.
+    pass(33, 3);
+    for (int number = 0; number < 6; number++) {
+      boolean isThere = number < 3;
+      rigIs(number, isThere ? number + 1 : -1, isThere ? -1 : number, 31 + number, 0, 1);
+    }
+    // All arrive by 36: of the ten 36 each has a breach, but for the rig at the bay.
+    pass(37, 4);
+    for (int number = 0; number < 6; number++) {
+      rigIs(number, number + 1, -1, 31 + number, number == 3 ? 0 : 1, 1);
+    }
+  }
+
+  /** "Tells why a rig may not begin a drive on a road at a ten", wherever it is and is going. */
+  private void whyIsOfAnyRigAndRoad() {
+    haul = new HeavyHaul();
+    road(0, 0, 1, 0, 3);
+    road(1, 7, 8, 0, 3);
+    bridge(0, 0, 5, 10, 10);
+    rig(0, 0);
+    permit(1, 0, 0, 0, 9);
+    why(0, 0, 1, 0);
+    drive(3, 0, 0);
+    // Neither that it drives, nor that it is on that bridge itself, nor that a ten is over.
+    pass(2, 2);
+    why(0, 0, 0, 0);
+    why(0, 0, 0, 2);
+    why(0, 0, 1, 6);
+    why(6, 0, 1, 7);
+    rigIs(0, -1, 0, 3, 0, 1);
   }
 
   /** "A ten that goes by by day, while it stands at a place without a bay, is a breach." */

@@ -1,11 +1,16 @@
+import java.io.IOException;
 import java.lang.reflect.Constructor;
 import java.lang.reflect.Field;
 import java.lang.reflect.Method;
 import java.lang.reflect.Modifier;
+import java.nio.file.Files;
+import java.nio.file.Path;
 import java.util.ArrayList;
 import java.util.Collections;
 import java.util.List;
 import java.util.TreeSet;
+import java.util.regex.Matcher;
+import java.util.regex.Pattern;
 
 /** The class shows the document's face and nothing else. */
 final class FaceTest {
@@ -33,7 +38,14 @@ final class FaceTest {
     "int pass(int) " + A + " " + S,
   };
 
-  public static void main(String[] args) {
+  /** The sections of the interface and the calls behind each of them, in the document's order. */
+  private static final String SECTIONS = "HeavyHaul"
+      + " ---- roads bay road bridge work"
+      + " ---- rigs rig load axle greatest greatestAnew"
+      + " ---- authorities authority permit embargo"
+      + " ---- drives why drive arrives rigIs pass";
+
+  public static void main(String[] args) throws IOException {
     Check check = new Check();
     check.due("NONE", -1, () -> HeavyHaul.NONE);
     int modifiers = HeavyHaul.class.getModifiers();
@@ -79,7 +91,19 @@ final class FaceTest {
     }
     Collections.sort(openClasses);
     check.same("classes inside that are open", "[]", openClasses.toString());
+    check.same("the sections", SECTIONS, sections());
     check.close("FaceTest");
+  }
+
+  private static String sections() throws IOException {
+    String source = Files.readString(Path.of("src/main/java/HeavyHaul.java"));
+    Matcher told = Pattern.compile("// (---- .*)|public (?:\\w+ )?(\\w+)\\(").matcher(source);
+    StringBuilder all = new StringBuilder();
+    while (told.find()) {
+      all.append(all.length() == 0 ? "" : " ");
+      all.append(told.group(1) == null ? told.group(2) : told.group(1));
+    }
+    return all.toString();
   }
 
   private static String face(Method method) {
